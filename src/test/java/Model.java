@@ -1,5 +1,6 @@
 import java.util.ArrayDeque;
 import java.util.ArrayList;
+import java.util.Comparator;
 import java.util.Deque;
 import java.util.HashMap;
 import java.util.HashSet;
@@ -36,6 +37,7 @@ final class Model {
     private static final List<Point> POINTS = pointsOfAllKeys();
     private static final Map<Point, Integer> KEYS = keysOfAllPoints();
     private static final Map<Point, Integer> FAR = farFromMiddle();
+    private static final List<List<Integer>> NEIGHBOURS = neighboursOfAllKeys();
 
     private List<TreeSet<Integer>> slots = new ArrayList<>();
     private final Map<Integer, List<TreeSet<Integer>>> images = new TreeMap<>();
@@ -117,28 +119,50 @@ final class Model {
         return hexes;
     }
 
-    private static Set<Integer> nextTo(int key) {
-        Set<Integer> keys = new TreeSet<>();
-        for (int side = 1; side <= 6; side++) {
-            keys.add(beside(key, side));
+    private static boolean liesIn(Set<Integer> set, Patch patch) {
+        for (int key = patch.key; key < patch.key + size(patch.level); key++) {
+            if (!set.contains(key)) {
+                return false;
+            }
         }
-        keys.remove(NONE);
-        return keys;
+        return true;
+    }
+
+    private static List<Integer> nextTo(int key) {
+        return NEIGHBOURS.get(key);
+    }
+
+    private static List<List<Integer>> neighboursOfAllKeys() {
+        List<List<Integer>> all = new ArrayList<>();
+        for (int key = 0; key < 2401; key++) {
+            List<Integer> keys = new ArrayList<>();
+            for (int side = 1; side <= 6; side++) {
+                keys.add(beside(key, side));
+            }
+            keys.removeIf(k -> k == NONE);
+            all.add(keys);
+        }
+        return all;
     }
 
     private static List<Patch> pack(Set<Integer> set) {
-        List<Patch> patches = new ArrayList<>();
-        for (int key : set) {
-            for (int level = 4; level >= 0; level--) {
-                Patch patch = new Patch(least(key, level), level);
-                if (set.containsAll(hexesOf(patch))) {
-                    if (patch.key == key) {
-                        patches.add(patch);
-                    }
-                    break;
+        Set<Patch> within = new HashSet<>();
+        for (int level = 0; level <= 4; level++) {
+            for (int key = 0; key < 2401; key += size(level)) {
+                Patch patch = new Patch(key, level);
+                if (liesIn(set, patch)) {
+                    within.add(patch);
                 }
             }
         }
+        List<Patch> patches = new ArrayList<>();
+        for (Patch patch : within) {
+            int above = patch.level + 1;
+            if (above > 4 || !within.contains(new Patch(least(patch.key, above), above))) {
+                patches.add(patch);
+            }
+        }
+        patches.sort(Comparator.comparingInt(Patch::key));
         return patches;
     }
 
@@ -304,7 +328,7 @@ final class Model {
         TreeSet<Integer> old = slots.get(from);
         TreeSet<Integer> set = new TreeSet<>();
         for (int key : old) {
-            Set<Integer> neighbours = nextTo(key);
+            List<Integer> neighbours = nextTo(key);
             if (n == 1) {
                 set.add(key);
                 set.addAll(neighbours);

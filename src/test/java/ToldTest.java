@@ -11,6 +11,7 @@ public final class ToldTest {
     public static void main(String[] args) {
         has();
         aboutEmpty();
+        firstAndLastKey();
         aboutSome();
         aboutRefused();
         packedLevels();
@@ -50,6 +51,27 @@ public final class ToldTest {
 
     private static void aboutEmpty() {
         aboutIs(new SevenKeys(), 3, 0, 0, 0, 0, 0, NONE, NONE);
+    }
+
+    private static void firstAndLastKey() {
+        for (int key : new int[] {0, 2400}) {
+            SevenKeys x = new SevenKeys();
+            x.put(0, key, 0, 1);
+            aboutIs(x, 0, 1, 1, 6, 1, 1, key, key);
+            packedIs(x, 0, 0, key, 0);
+            CHECK.due("piece(0, " + key + ")", x.piece(0, key), 0);
+            CHECK.due("way(0, " + key + ", the same)", x.way(0, key, key), 0);
+            x.put(0, 1000, 0, 1);
+            CHECK.due("piece(0, 1000)", x.piece(0, 1000), key == 0 ? 1 : 0);
+            x.put(1, 1000, 0, 1);
+            CHECK.due("alike, but for " + key, x.alike(0, 1), 2);
+            CHECK.due("alike, but for " + key, x.alike(1, 0), 1);
+            x.put(0, 1000, 0, 0);
+            x.put(1, 1001, 0, 1);
+            CHECK.due("alike, apart, by " + key, x.alike(0, 1), 3);
+            x.put(0, 1000, 0, 1);
+            CHECK.due("alike, one together, by " + key, x.alike(0, 1), 4);
+        }
     }
 
     private static void aboutSome() {
