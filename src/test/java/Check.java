@@ -24,6 +24,10 @@ final class Check {
         due(what, so ? 1 : 0, 1);
     }
 
+    void same(String what, String got, String want) {
+        holds(what + ": " + got + ", due is " + want, got.equals(want));
+    }
+
     int wrong() {
         return wrong;
     }
