@@ -6,6 +6,7 @@ import java.lang.reflect.Modifier;
 import java.nio.file.Files;
 import java.nio.file.Path;
 import java.util.ArrayList;
+import java.util.Arrays;
 import java.util.List;
 import java.util.Map;
 import java.util.Set;
@@ -60,6 +61,8 @@ public final class FaceTest {
                 CHECK.holds(method.getName() + " is public and answers an int",
                     Modifier.isPublic(method.getModifiers()) && method.getReturnType() == int.class
                     && !Modifier.isStatic(method.getModifiers()));
+                CHECK.holds(method.getName() + " takes ints",
+                    Arrays.stream(method.getParameterTypes()).allMatch(type -> type == int.class));
             }
             CHECK.holds(method.getName() + " takes at most seven", method.getParameterCount() <= 7);
         }
@@ -70,11 +73,16 @@ public final class FaceTest {
         Set<String> open = new TreeSet<>();
         List<Class<?>> classes = new ArrayList<>(List.of(SevenKeys.class.getDeclaredClasses()));
         for (Class<?> inside : classes) {
-            CHECK.holds(inside + " is static", Modifier.isStatic(inside.getModifiers()));
+            int modifiers = inside.getModifiers();
+            CHECK.holds(inside + " is static", Modifier.isStatic(modifiers));
+            CHECK.holds(inside + " is not of the face", !Modifier.isPublic(modifiers) && !Modifier.isProtected(modifiers));
         }
+        CHECK.holds("at most twelve classes", classes.size() < 12);
         for (Field field : SevenKeys.class.getDeclaredFields()) {
             if (!Modifier.isPrivate(field.getModifiers())) {
                 open.add(field.getName());
+                CHECK.same("how the constant is told", field.toString(),
+                    "public static final int SevenKeys." + field.getName());
             }
         }
         CHECK.holds("no other open field: " + open, open.equals(Set.of("UNKNOWN", "OUTSIDE", "STATE", "NONE")));
@@ -102,6 +110,11 @@ public final class FaceTest {
         while (imports.find()) {
             CHECK.holds("import of " + imports.group(1),
                 Set.of("java.util.Arrays", "java.util.ArrayList", "java.util.List").contains(imports.group(1)));
+        }
+        Matcher calls = Pattern.compile("\\b([A-Z]\\w*\\.\\w+)\\(").matcher(code);
+        while (calls.find()) {
+            CHECK.holds("call of " + calls.group(1),
+                Set.of("Arrays.fill", "Math.max", "Math.min", "Math.abs").contains(calls.group(1)));
         }
         CHECK.due("static initialiser blocks", Pattern.compile("\\bstatic\\s*\\{").matcher(code).find() ? 1 : 0, 0);
     }
