@@ -20,7 +20,7 @@ public final class TermsTest {
     private static final int WIDTH = 141;
 
     // How many sets holding(..) knows.
-    private static final int SETS = 6;
+    private static final int SETS = 9;
 
     private static final Check CHECK = new Check("TermsTest");
     private static final Fresh FRESH = new Fresh();
@@ -225,6 +225,18 @@ public final class TermsTest {
                 x.put(0, 450, 2, 1);
                 x.put(0, 441, 0, 0);
                 break;
+            case 5:
+                x.put(0, 0, 4, 1);
+                break;
+            case 6:
+                x.put(0, 0, 4, 1);
+                x.put(0, 700, 0, 0);
+                break;
+            case 7:
+                x.put(0, 1029, 3, 1);
+                x.put(0, 50, 2, 1);
+                x.put(0, 2400, 0, 1);
+                break;
             default:
                 for (int key = 20; key < 70; key += 2) {
                     x.put(0, key, 0, 1);
@@ -235,14 +247,33 @@ public final class TermsTest {
         return x;
     }
 
-    private static boolean[] hexesOf(int which) {
-        boolean[] hexes = new boolean[ALL];
-        SevenKeys x = null;
-        for (int key = 0; key < ALL; key++) {
-            if (key % 400 == 0) {
-                x = holding(which);
+    /** Hands out an object that holds one of the sets, and a new one in time. */
+    private static final class Holding {
+        private static final int CALLS = 400;
+
+        private final int which;
+        private SevenKeys object = null;
+        private int calls = 0;
+
+        Holding(int which) {
+            this.which = which;
+        }
+
+        SevenKeys x() {
+            if (object == null || calls == CALLS) {
+                object = holding(which);
+                calls = 0;
             }
-            hexes[key] = x.has(0, key) == 1;
+            calls++;
+            return object;
+        }
+    }
+
+    private static boolean[] hexesOf(int which) {
+        Holding holding = new Holding(which);
+        boolean[] hexes = new boolean[ALL];
+        for (int key = 0; key < ALL; key++) {
+            hexes[key] = holding.x().has(0, key) == 1;
         }
         return hexes;
     }
@@ -309,9 +340,9 @@ public final class TermsTest {
     /** Each hex has the piece of those next to it; two of one piece have a way, others none. */
     private static void piecesComeTogetherBySteps(int which) {
         boolean[] hexes = hexesOf(which);
-        SevenKeys x = holding(which);
-        int[] pieces = piecesOf(x, hexes);
-        int first = x.about(0, 5);
+        Holding holding = new Holding(which);
+        int[] pieces = piecesOf(which, hexes);
+        int first = holding.x().about(0, 5);
         for (int key = 0; key < ALL; key++) {
             for (int side = 1; hexes[key] && side <= 6; side++) {
                 int there = x().next(key, side);
@@ -322,17 +353,18 @@ public final class TermsTest {
             if (hexes[key]) {
                 boolean together = pieces[key] == pieces[first];
                 CHECK.due("set " + which + ": way from " + first + " to " + key,
-                    x.way(0, first, key) == NONE ? 0 : 1, together ? 1 : 0);
+                    holding.x().way(0, first, key) == NONE ? 0 : 1, together ? 1 : 0);
             }
         }
     }
 
-    private static int[] piecesOf(SevenKeys x, boolean[] hexes) {
+    private static int[] piecesOf(int which, boolean[] hexes) {
+        Holding holding = new Holding(which);
         int[] pieces = new int[ALL];
         Arrays.fill(pieces, NONE);
         for (int key = 0; key < ALL; key++) {
             if (hexes[key]) {
-                pieces[key] = x.piece(0, key);
+                pieces[key] = holding.x().piece(0, key);
             }
         }
         return pieces;
@@ -342,7 +374,7 @@ public final class TermsTest {
     private static void piecesAreNumberedByLeastKeys(int which) {
         boolean[] hexes = hexesOf(which);
         SevenKeys x = holding(which);
-        int[] pieces = piecesOf(x, hexes);
+        int[] pieces = piecesOf(which, hexes);
         int[] sizes = new int[ALL];
         int seen = 0;
         for (int key = 0; key < ALL; key++) {
